@@ -901,7 +901,7 @@ public final class LintDesk {
             return false;
         }
 
-        /** In a row, it stands right in STATEMENTS; where it may not declare, it follows an if, else or while. */
+        /** In a row: right in STATEMENTS. It may not declare where it belongs to an if, else or while. */
         private boolean statement(int depth, boolean inRow, boolean mayDeclare) {
             if (depth > MOST_DEEP) {
                 return false;
@@ -1079,10 +1079,10 @@ public final class LintDesk {
         private boolean use(int depth) {
             binder.addUse(at, scope, false);
             at++;
-            return !take(Token.OPEN) || take(Token.CLOSE) || values(depth + 1) && take(Token.CLOSE);
+            return !take(Token.OPEN) || take(Token.CLOSE) || arguments(depth + 1) && take(Token.CLOSE);
         }
 
-        private boolean values(int depth) {
+        private boolean arguments(int depth) {
             for (int n = 0; n <= MOST_TOKENS; n++) {
                 if (!value(depth)) {
                     return false;
@@ -1204,8 +1204,8 @@ public final class LintDesk {
         int mendableAt(Reading reading, int token) {
             int rules = findingsAt(reading, token);
             for (int rule = EQUAL; rule <= SPARE; rule++) {
-                boolean fixed = rule == EMPTY && !reading.marks.isLoose(token);
-                if ((rules & 1 << rule) != 0 && !fixed) {
+                boolean needed = rule == EMPTY && !reading.marks.isLoose(token);
+                if ((rules & 1 << rule) != 0 && !needed) {
                     return rule;
                 }
             }

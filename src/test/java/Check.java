@@ -1,4 +1,6 @@
 import java.nio.charset.StandardCharsets;
+import java.util.ArrayList;
+import java.util.List;
 
 /** What the tests share: a count of what is wrong, and short ways to use a LintDesk. */
 final class Check {
@@ -104,5 +106,13 @@ final class Check {
             all.append(what == 0 ? "" : " ").append(desk.declared(k, what));
         }
         return all.toString();
+    }
+
+    static List<String> things(LintDesk desk) {
+        List<String> all = new ArrayList<>();
+        for (int k = 0; k < desk.count(3); k++) {
+            all.add(thing(desk, k));
+        }
+        return all;
     }
 }

@@ -20,6 +20,7 @@ public final class Promise03ReadTest {
         }
         answersFindings(check);
         staysWhenWrong(check);
+        readsAnew(check);
         check.end();
     }
 
@@ -31,6 +32,32 @@ public final class Promise03ReadTest {
         check.same("the empty source", desk.count(0), 0);
         desk.rule(0, false);
         check.same("read() without rule 0", Check.read(desk, "let a = b;"), 2);
+    }
+
+    /** Nothing of a source, read or refused, is left behind in a later one. */
+    private static void readsAnew(Check check) {
+        String[] before = {
+            "let a = 1; a;", "@1 @8 { } @7 @0 { let a = b; }", "{} {} {} {}", "fn f(a) { fn g() { return; ; } }",
+            "{ { { let a = 1; fn f(a) { #", "const a = 1; a = 1; a = 1; a", "@0 @1 @7 @8 { {} {} #",
+        };
+        String[] later = {"let a; a = 1; a;", "if (1) {} else {}", "a == b; {}", "let a; { let a = 1; }"};
+        LintDesk desk = new LintDesk();
+        for (String former : before) {
+            for (String source : later) {
+                Check.wrongPlaceOf(desk, former);
+                Check.wrongPlaceOf(desk, former);
+                Check.read(desk, source);
+                LintDesk fresh = Check.reading(source);
+                check.same("findings of " + source + " behind " + former,
+                        Check.findings(desk), Check.findings(fresh));
+                check.same("things of it", Check.things(desk), Check.things(fresh));
+                check.same("mend() of it", desk.mend(), fresh.mend());
+                check.same("what it is then", Check.text(desk), Check.text(fresh));
+                for (int what = 0; what <= 9; what++) {
+                    check.same("count(" + what + ") of it", desk.count(what), fresh.count(what));
+                }
+            }
+        }
     }
 
     private static void staysWhenWrong(Check check) {

@@ -143,11 +143,16 @@ public final class Promise04WrongTest {
         check.wrongPlace("(".repeat(12) + "a" + ")".repeat(12) + ";", 11);
         check.wrongPlace("a=".repeat(11) + "b;", -1);
         check.wrongPlace("a=".repeat(12) + "b;", 24);
+        check.wrongPlace("a=".repeat(12) + ";", 24);
         check.wrongPlace("let " + "a=".repeat(11) + "b;", -1);
         check.wrongPlace("let " + "a=".repeat(12) + "b;", 28);
         check.wrongPlace("f(".repeat(12) + ")".repeat(12) + ";", -1);
         check.wrongPlace("f(".repeat(11) + "a" + ")".repeat(11) + ";", -1);
         check.wrongPlace("f(".repeat(12) + "a" + ")".repeat(12) + ";", 24);
+        check.wrongPlace("f(".repeat(11) + "f(,)" + ")".repeat(11) + ";", 24);
+        check.wrongPlace("f(".repeat(11) + "f(!)" + ")".repeat(11) + ";", 24);
+        check.wrongPlace("(".repeat(12) + ")".repeat(12) + ";", 11);
+        check.wrongPlace("!".repeat(12) + ";", 11);
         check.wrongPlace("f(1,".repeat(5) + "a" + ")".repeat(5) + ";", -1);
         check.wrongPlace("while(a)".repeat(11) + "b;", -1);
         check.wrongPlace("while(a)".repeat(12) + "b;", 96);

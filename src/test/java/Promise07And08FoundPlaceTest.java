@@ -154,6 +154,7 @@ public final class Promise07And08FoundPlaceTest {
         check.finds("@0 if (a) b; else c; d;", "0@21");
         check.finds("fn f() { @5 return; 1; } f;", "5@20");
         check.finds("fn f() { return; @5 1; } f;", "");
+        check.finds("fn f() { return; @5 ; } f;", "");
         check.finds("@4 { let a; a; } let a; a;", "");
         check.finds("{ let a; a; } @4 let a; a;", "4@6");
         check.finds("@2 @3 a = 1; const a = 1; a;", "");

@@ -1,3 +1,5 @@
+import java.util.List;
+
 /** Promise 11: declared, SCOPES, USES and KINDS. */
 public final class Promise11DeclaredTest {
     public static void main(String[] args) {
@@ -12,10 +14,7 @@ public final class Promise11DeclaredTest {
 
     private static void things(Check check, String source, String... want) {
         LintDesk desk = Check.reading(source);
-        check.same("things of " + source, desk.count(3), want.length);
-        for (int k = 0; k < Math.min(desk.count(3), want.length); k++) {
-            check.same("thing " + k + " of " + source, Check.thing(desk, k), want[k]);
-        }
+        check.same("things of " + source, Check.things(desk), List.of(want));
     }
 
     private static void kinds(Check check) {
