@@ -40,7 +40,9 @@ public final class Promise03ReadTest {
             "let a = 1; a;", "@1 @8 { } @7 @0 { let a = b; }", "{} {} {} {}", "fn f(a) { fn g() { return; ; } }",
             "{ { { let a = 1; fn f(a) { #", "const a = 1; a = 1; a = 1; a", "@0 @1 @7 @8 { {} {} #",
         };
-        String[] later = {"let a; a = 1; a;", "if (1) {} else {}", "a == b; {}", "let a; { let a = 1; }"};
+        String[] later = {
+            "let a; a = 1; a;", "while (1) {} a;", "if (1) {} else {}", "a == b; {}", "let a; { let a = 1; }",
+        };
         LintDesk desk = new LintDesk();
         for (String former : before) {
             for (String source : later) {
