@@ -33,6 +33,20 @@ final class Check {
         same("the wrong place of " + source, wrongPlaceOf(desk, source), want);
     }
 
+    /** Both sides of a boundary: the first is a PROGRAM, the second is wrong at a place. */
+    void edge(String inside, String outside, int place) {
+        wrongPlace(inside, -1);
+        wrongPlace(outside, place);
+    }
+
+    /** It throws, and nothing that can be asked is another then. */
+    void refusedWithoutTrace(String what, Class<? extends RuntimeException> due, LintDesk desk,
+            Runnable call) {
+        String before = state(desk);
+        refused(what, due, call);
+        same("the state behind the refused " + what, state(desk), before);
+    }
+
     void mends(String source, String want, int things, int rounds) {
         LintDesk desk = reading(source);
         same("mend() of " + source, desk.mend(), things);
@@ -85,7 +99,8 @@ final class Check {
 
     static String findings(LintDesk desk) {
         StringBuilder all = new StringBuilder();
-        for (int k = 0; k < desk.count(2); k++) {
+        int size = desk.count(2);
+        for (int k = 0; k < size; k++) {
             all.append(k == 0 ? "" : " ").append(desk.found(k)).append('@').append(desk.place(k));
         }
         return all.toString();
@@ -93,7 +108,8 @@ final class Check {
 
     static String text(LintDesk desk) {
         StringBuilder all = new StringBuilder();
-        for (int k = 0; k < desk.count(0); k++) {
+        int size = desk.count(0);
+        for (int k = 0; k < size; k++) {
             all.append((char) desk.letter(k));
         }
         return all.toString();
@@ -108,9 +124,37 @@ final class Check {
         return all.toString();
     }
 
+    /** What the SOURCE, the RULES and the GIVEN names tell. */
+    static String stateOfSource(LintDesk desk) {
+        List<String> all = new ArrayList<>();
+        all.add(text(desk));
+        all.add(findings(desk));
+        all.addAll(things(desk));
+        int[] counts = {0, 1, 2, 3, 4, 5, 7, 9};
+        for (int what : counts) {
+            all.add("count(" + what + ") " + desk.count(what));
+        }
+        return all.toString();
+    }
+
+    /** All that can be asked of a desk. */
+    static String state(LintDesk desk) {
+        StringBuilder all = new StringBuilder(stateOfSource(desk));
+        all.append(" rounds ").append(desk.count(6));
+        all.append(" written ").append(desk.count(8));
+        all.append(" wrong ").append(desk.wrong());
+        for (int n = 0; n <= 9; n++) {
+            boolean on = desk.rule(n, true);
+            desk.rule(n, on);
+            all.append(on ? " on" : " off");
+        }
+        return all.toString();
+    }
+
     static List<String> things(LintDesk desk) {
         List<String> all = new ArrayList<>();
-        for (int k = 0; k < desk.count(3); k++) {
+        int size = desk.count(3);
+        for (int k = 0; k < size; k++) {
             all.add(thing(desk, k));
         }
         return all;

@@ -43,9 +43,9 @@ public final class Promise03ReadTest {
         String[] later = {
             "let a; a = 1; a;", "while (1) {} a;", "if (1) {} else {}", "a == b; {}", "let a; { let a = 1; }",
         };
-        LintDesk desk = new LintDesk();
         for (String former : before) {
             for (String source : later) {
+                LintDesk desk = new LintDesk();
                 Check.wrongPlaceOf(desk, former);
                 Check.wrongPlaceOf(desk, former);
                 Check.read(desk, source);

@@ -1,5 +1,3 @@
-import java.util.ArrayList;
-import java.util.List;
 import java.util.Random;
 
 /** What holds for every text, on many that are made at random from the same seed each time. */
@@ -45,11 +43,11 @@ public final class RandomTest {
 
     private boolean oneText(String text) {
         LintDesk desk = Check.reading("let z = 0; z == y;");
-        String before = state(desk);
+        String before = Check.stateOfSource(desk);
         int place = Check.wrongPlaceOf(desk, text);
         check.same("wrong() of " + text, desk.wrong(), place);
         if (place >= 0) {
-            check.same("the state behind " + text, state(desk), before);
+            check.same("the state behind " + text, Check.stateOfSource(desk), before);
             wrongPlace(text, place);
             return false;
         }
@@ -106,21 +104,9 @@ public final class RandomTest {
             fresh.give(Check.octets("c"));
         }
         Check.read(fresh, Check.text(desk));
-        check.same("the mended " + text + " read anew", state(fresh), state(desk));
+        check.same("the mended " + text + " read anew", Check.stateOfSource(fresh), Check.stateOfSource(desk));
         if (rounds < 4 && letters < 100) {
             check.same("nothing more to mend in " + text, fresh.mend(), 0);
         }
-    }
-
-    private static String state(LintDesk desk) {
-        List<String> all = new ArrayList<>();
-        all.add(Check.text(desk));
-        all.add(Check.findings(desk));
-        all.addAll(Check.things(desk));
-        int[] counts = {0, 1, 2, 3, 4, 5, 7, 9};
-        for (int what : counts) {
-            all.add("count(" + what + ") " + desk.count(what));
-        }
-        return all.toString();
     }
 }
