@@ -121,10 +121,16 @@ public final class LintDesk {
         int mended = 0;
         rounds = 0;
         for (int round = 0; round < MOST_ROUNDS; round++) {
-            int inRound = mendRound();
-            if (inRound == 0) {
+            int inRound = settings.mendablesIn(source);
+            if (inRound == 0 || mendedSize() > MOST_LETTERS) {
                 break;
             }
+            writeMended();
+            // What is mended stays a PROGRAM: this only keeps the SOURCE whole if that were ever untrue.
+            if (spare.study() >= 0) {
+                break;
+            }
+            takeSpare();
             rounds++;
             mended += inRound;
         }
@@ -187,27 +193,16 @@ public final class LintDesk {
         spare = former;
     }
 
-    /** How many things the round mended; 0 if there was nothing to mend, or no room for it. */
-    private int mendRound() {
-        int things = 0;
+    /** How many LETTERS there would be behind a ROUND. */
+    private int mendedSize() {
         int size = source.letters.size;
         for (int token = 0; token < source.tokens.size; token++) {
             int rule = settings.mendableAt(source, token);
             if (rule >= 0) {
-                things++;
                 size += mendedText(rule).length() - mendedTo(token, rule) + mendedFrom(token, rule);
             }
         }
-        if (things == 0 || size > MOST_LETTERS) {
-            return 0;
-        }
-        writeMended();
-        // What is mended stays a PROGRAM: this only keeps the SOURCE whole if that were ever untrue.
-        if (spare.study() >= 0) {
-            return 0;
-        }
-        takeSpare();
-        return things;
+        return size;
     }
 
     private void writeMended() {
@@ -876,7 +871,7 @@ public final class LintDesk {
         }
 
         private boolean take(Token kind) {
-            if (next() != kind) {
+            if (tokens.kindOf(at) != kind) {
                 return false;
             }
             at++;
@@ -1198,6 +1193,16 @@ public final class LintDesk {
                 }
             }
             return -1;
+        }
+
+        int mendablesIn(Reading reading) {
+            int sum = 0;
+            for (int token = 0; token < reading.tokens.size; token++) {
+                if (mendableAt(reading, token) >= 0) {
+                    sum++;
+                }
+            }
+            return sum;
         }
 
         /** The RULE of the one FINDING at a TOKEN that can be mended; else -1. */
