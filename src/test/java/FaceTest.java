@@ -8,9 +8,17 @@ import java.util.TreeSet;
 /** The public face is that of the document and nothing else (LANGUAGE.md, rules 1 and 5). */
 public final class FaceTest {
     private static final Set<String> FACE = Set.of(
-            "int write(long)", "int read()", "int wrong()", "boolean rule(int,boolean)", "int give(long)",
-            "int found(int)", "int place(int)", "int mend()", "int letter(int)", "int declared(int,int)",
-            "int count(int)");
+            "int write(long) IllegalArgumentException IndexOutOfBoundsException",
+            "int read() IllegalArgumentException",
+            "int wrong()",
+            "boolean rule(int,boolean) IllegalArgumentException",
+            "int give(long) IllegalArgumentException IllegalStateException IndexOutOfBoundsException",
+            "int found(int) IndexOutOfBoundsException",
+            "int place(int) IndexOutOfBoundsException",
+            "int mend()",
+            "int letter(int) IndexOutOfBoundsException",
+            "int declared(int,int) IndexOutOfBoundsException IllegalArgumentException",
+            "int count(int) IllegalArgumentException");
 
     public static void main(String[] args) {
         Check check = new Check();
@@ -42,7 +50,11 @@ public final class FaceTest {
         for (int k = 0; k < method.getParameterCount(); k++) {
             text += (k == 0 ? "" : ",") + method.getParameterTypes()[k];
         }
-        return text + ")";
+        text += ")";
+        for (Class<?> thrown : method.getExceptionTypes()) {
+            text += " " + thrown.getSimpleName();
+        }
+        return text;
     }
 
     private static void fields(Check check, Class<?> of) {
